@@ -5,6 +5,8 @@
 public final class VotedHill {
     public static final int BAD = -1, FULL = -2, FINDING = -3, STATE = -4, SPENT = -6, NONE = -9;
 
+    /** What is answered in place of a refusal, all of which are below 0. */
+    private static final int ACCEPTED = 0;
     private static final int NOTHING = 1, BEYOND = 2, UNLIKE = 3, NOUGHT = 4, SIZE = 5;
     private static final int ROWS = 6, ROW_SIZE = 40, TEXTS = 4, TEXT_SIZE = 60, KEPT = 3;
     private static final int BYTE_SHIFT = 1000, COUNTS = 11, FINDINGS = 5;
@@ -54,12 +56,9 @@ public final class VotedHill {
     }
 
     public int lay(int r, int i, int v) {
-        if (!isRow(r)) {
-            return BAD;
-        }
-        int finding = placeFinding(rows[r], i);
-        if (finding != 0) {
-            return refuse(finding);
+        int refused = isRow(r) ? placeRefusal(rows[r], i) : BAD;
+        if (refused != ACCEPTED) {
+            return refused;
         }
         told = rows[r].places[i];
         rows[r].places[i] = v;
@@ -67,12 +66,9 @@ public final class VotedHill {
     }
 
     public int at(int r, int i) {
-        if (!isRow(r)) {
-            return BAD;
-        }
-        int finding = placeFinding(rows[r], i);
-        if (finding != 0) {
-            return refuse(finding);
+        int refused = isRow(r) ? placeRefusal(rows[r], i) : BAD;
+        if (refused != ACCEPTED) {
+            return refused;
         }
         told = rows[r].places[i];
         return 1;
@@ -137,12 +133,9 @@ public final class VotedHill {
     }
 
     public int put(int t, int i, int v) {
-        if (!isText(t)) {
-            return BAD;
-        }
-        int finding = placeFinding(texts[t], i);
-        if (finding != 0) {
-            return refuse(finding);
+        int refused = isText(t) ? placeRefusal(texts[t], i) : BAD;
+        if (refused != ACCEPTED) {
+            return refused;
         }
         int before = texts[t].places[i];
         texts[t].places[i] = (byte) v;
@@ -381,15 +374,9 @@ public final class VotedHill {
     // ---- 5 where it stood
 
     public int fits(int r) {
-        if (!isRow(r)) {
-            return BAD;
-        }
-        if (land.isEmpty()) {
-            return STATE;
-        }
-        int finding = pairsFinding(rows[r], land.people);
-        if (finding != 0) {
-            return refuse(finding);
+        int refused = cellPairsRefusal(r);
+        if (refused != ACCEPTED) {
+            return refused;
         }
         int cells = clues.fittingCells(land, rows[r]);
         told = Integer.bitCount(cells);
@@ -397,15 +384,9 @@ public final class VotedHill {
     }
 
     public int next(int r) {
-        if (!isRow(r)) {
-            return BAD;
-        }
-        if (land.isEmpty()) {
-            return STATE;
-        }
-        int finding = pairsFinding(rows[r], land.people);
-        if (finding != 0) {
-            return refuse(finding);
+        int refused = cellPairsRefusal(r);
+        if (refused != ACCEPTED) {
+            return refused;
         }
         int cells = clues.fittingCells(land, rows[r]);
         if (cells == 0) {
@@ -417,23 +398,17 @@ public final class VotedHill {
     }
 
     public int kinds(int i, int r) {
-        if (!land.hasOne(i) || !isRow(r)) {
-            return BAD;
-        }
-        int finding = pairsFinding(rows[r], land.cells());
-        if (finding != 0) {
-            return refuse(finding);
+        int refused = kindPairsRefusal(i, r);
+        if (refused != ACCEPTED) {
+            return refused;
         }
         return clues.fittingKinds(land, i, rows[r]);
     }
 
     public int test(int i, int r) {
-        if (!land.hasOne(i) || !isRow(r)) {
-            return BAD;
-        }
-        int finding = pairsFinding(rows[r], land.cells());
-        if (finding != 0) {
-            return refuse(finding);
+        int refused = kindPairsRefusal(i, r);
+        if (refused != ACCEPTED) {
+            return refused;
         }
         int possible = clues.fittingKinds(land, i, rows[r]);
         if (possible == 0) {
@@ -633,30 +608,43 @@ public final class VotedHill {
         return FINDING;
     }
 
-    /** The FINDING that place i of a strip would be refused with, or 0. */
-    private static int placeFinding(Strip strip, int i) {
+    /** What a call about place i of a strip is refused with, or ACCEPTED. */
+    private int placeRefusal(Strip strip, int i) {
         if (strip.isMissing()) {
-            return NOTHING;
+            return refuse(NOTHING);
         }
-        return i < 0 || i >= strip.size ? BEYOND : 0;
+        return i < 0 || i >= strip.size ? refuse(BEYOND) : ACCEPTED;
     }
 
-    /** The FINDING that a ROW of pairs (a number below firsts, a GAIN) would be refused with, or 0. */
-    private static int pairsFinding(Strip row, int firsts) {
+    /** What a call about a ROW of pairs (one of PEOPLE, a GAIN) is refused with, or ACCEPTED. */
+    private int cellPairsRefusal(int r) {
+        if (!isRow(r)) {
+            return BAD;
+        }
+        return land.isEmpty() ? STATE : pairsRefusal(rows[r], land.people);
+    }
+
+    /** What a call about one by a ROW of pairs (a CELL, a GAIN) is refused with, or ACCEPTED. */
+    private int kindPairsRefusal(int i, int r) {
+        return land.hasOne(i) && isRow(r) ? pairsRefusal(rows[r], land.cells()) : BAD;
+    }
+
+    /** Pairs are of a number below firsts and a GAIN. */
+    private int pairsRefusal(Strip row, int firsts) {
         if (row.isMissing()) {
-            return NOTHING;
+            return refuse(NOTHING);
         }
         if (row.size % 2 != 0) {
-            return SIZE;
+            return refuse(SIZE);
         }
         for (int i = 0; i + 1 < row.size; i += 2) {
             int first = row.places[i];
             int gained = row.places[i + 1];
             if (first < 0 || first >= firsts || gained < 0 || gained > Clues.MOST_GAIN) {
-                return UNLIKE;
+                return refuse(UNLIKE);
             }
         }
-        return 0;
+        return ACCEPTED;
     }
 
     private int aboutOne(int i, int what) {
@@ -826,31 +814,31 @@ public final class VotedHill {
             return i >= 0 && i < people;
         }
 
-        private int lineOf(int cell) {
-            return columns < 1 ? 0 : cell / columns;
-        }
-
-        private int columnOf(int cell) {
-            return cell - columns * lineOf(cell);
-        }
-
         int far(int cell, int other) {
-            return Math.abs(columnOf(cell) - columnOf(other)) + Math.abs(lineOf(cell) - lineOf(other));
+            if (columns < 1) {
+                return 0;
+            }
+            return Math.abs(cell % columns - other % columns) + Math.abs(cell / columns - other / columns);
         }
 
         /** The CELL that lies a WAY from a CELL, or NOWHERE. */
         int beside(int cell, int way) {
+            if (columns < 1) {
+                return NOWHERE;
+            }
+            int line = cell / columns;
+            int column = cell % columns;
             switch (way) {
                 case STAY:
                     return cell;
                 case NORTH:
-                    return lineOf(cell) > 0 ? cell - columns : NOWHERE;
+                    return line > 0 ? cell - columns : NOWHERE;
                 case EAST:
-                    return columnOf(cell) < columns - 1 ? cell + 1 : NOWHERE;
+                    return column < columns - 1 ? cell + 1 : NOWHERE;
                 case SOUTH:
-                    return lineOf(cell) < lines - 1 ? cell + columns : NOWHERE;
+                    return line < lines - 1 ? cell + columns : NOWHERE;
                 case WEST:
-                    return columnOf(cell) > 0 ? cell - 1 : NOWHERE;
+                    return column > 0 ? cell - 1 : NOWHERE;
                 default:
                     return NOWHERE;
             }
@@ -870,19 +858,22 @@ public final class VotedHill {
         }
 
         boolean liesNorth(int i, int cell) {
-            return lineOf(cell) < lineOf(house[i]);
+            return columns > 0 && cell / columns < house[i] / columns;
         }
 
         int gains(int i, int cell) {
-            return gainsAs(kind[i], i, cell);
+            return gainOf(kind[i], far(cell, house[i]), liesNorth(i, cell));
         }
 
         /** What one would GAIN by a CELL, were one of a KIND. */
         int gainsAs(int someKind, int i, int cell) {
-            int away = far(cell, house[i]);
+            return gainOf(someKind, far(cell, house[i]), liesNorth(i, cell));
+        }
+
+        private static int gainOf(int someKind, int away, boolean north) {
             switch (someKind) {
                 case VINE:
-                    return liesNorth(i, cell) ? away + 3 : away;
+                    return north ? away + 3 : away;
                 case WIDOW:
                     return 9 - away;
                 case GOAT:

@@ -1,4 +1,6 @@
 import java.io.IOException;
+import java.io.PrintWriter;
+import java.io.StringWriter;
 import java.lang.management.ManagementFactory;
 import java.lang.reflect.Constructor;
 import java.lang.reflect.Field;
@@ -8,11 +10,14 @@ import java.nio.file.Files;
 import java.nio.file.Path;
 import java.util.ArrayList;
 import java.util.Arrays;
+import java.util.HashMap;
 import java.util.List;
+import java.util.Map;
 import java.util.Set;
 import java.util.TreeSet;
 import java.util.regex.Matcher;
 import java.util.regex.Pattern;
+import java.util.spi.ToolProvider;
 
 /** The document's face, what of LANGUAGE.md can be seen from outside, and the room that calls take. */
 public final class LanguageTest {
@@ -33,6 +38,7 @@ public final class LanguageTest {
         constants();
         classesInside();
         source(Files.readString(Path.of(SOURCE)));
+        depth();
         room();
         System.out.println(wrong == 0 ? "face, language and room are as told" : wrong + " rules are broken");
         if (wrong != 0) {
@@ -147,6 +153,53 @@ public final class LanguageTest {
             }
         }
         hold(methods > FACE.length, "methods are found in the source");
+    }
+
+    /** Calls go at most eight deep, the library's counted; a method that calls itself is refused, too. */
+    private static void depth() {
+        if (ToolProvider.findFirst("javap").isEmpty()) {
+            System.out.println("no javap here: how deep calls go is not looked at");
+            return;
+        }
+        Map<String, Set<String>> calls = new HashMap<>();
+        List<Class<?>> all = new ArrayList<>(List.of(VotedHill.class.getDeclaredClasses()));
+        all.add(VotedHill.class);
+        for (Class<?> type : all) {
+            readCalls(type.getName(), calls);
+        }
+        hold(calls.containsKey("VotedHill.round") && !calls.get("VotedHill.round").isEmpty(), "calls are read");
+        for (String method : calls.keySet()) {
+            int deep = deepest(method, calls, 1);
+            hold(deep <= 8, method + " goes " + deep + " deep");
+        }
+    }
+
+    private static void readCalls(String type, Map<String, Set<String>> calls) {
+        StringWriter shown = new StringWriter();
+        PrintWriter out = new PrintWriter(shown);
+        ToolProvider.findFirst("javap").orElseThrow()
+            .run(out, out, "-c", "-p", "-cp", System.getProperty("java.class.path"), type);
+        Pattern head = Pattern.compile("  \\S[^/]*?([\\w$]+)\\([^)]*\\);");
+        Pattern call = Pattern.compile("// (?:Interface)?Method (?:([\\w$/]+)\\.)?\"?([\\w<>$]+)\"?:");
+        Set<String> callees = new TreeSet<>();
+        for (String line : shown.toString().split("\n")) {
+            Matcher method = head.matcher(line);
+            Matcher called = call.matcher(line);
+            if (method.matches()) {
+                String name = method.group(1).equals(type) ? "<init>" : method.group(1);
+                callees = calls.computeIfAbsent(type + "." + name, key -> new TreeSet<>());
+            } else if (called.find()) {
+                callees.add((called.group(1) == null ? type : called.group(1)) + "." + called.group(2));
+            }
+        }
+    }
+
+    private static int deepest(String method, Map<String, Set<String>> calls, int open) {
+        int deep = open;
+        for (String callee : calls.getOrDefault(method, Set.of())) {
+            deep = open > 20 ? open : Math.max(deep, deepest(callee, calls, open + 1));
+        }
+        return deep;
     }
 
     /** A run has some 7.3 million fields and elements for all that it makes: calls should make nothing. */
