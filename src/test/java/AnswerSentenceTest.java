@@ -257,11 +257,18 @@ public final class AnswerSentenceTest extends Sentences {
         back.call("house", 0, 3);
         due(back, 16, "course", 1, 0);
         due(back, 34, "course", 2, 0);
+        holds(back, 0, 0, 4);
         back.call("push", 2);
         back.call("push", 4);
         due(back, 18, "course", 1, 0);
         due(Hill.on("l3311 g119"), 0, "course", 5, 0);
         due(Hill.on("l3311 w119w119w119w119w119w119"), 5 * 54 * 9, "course", 5, 0);
+        // The first CELL and the last one, of the least LAND and of the greatest.
+        due(Hill.on("l3300 w001"), 9, "course", 1, 0);
+        due(Hill.on("l3322 w221"), 45, "course", 5, 0);
+        due(Hill.on("l5500 w002"), 90, "course", 5, 0);
+        due(Hill.on("l5544 w442"), 90, "course", 5, 0);
+        due(Hill.on("l5500 f001"), 1 + 2 + 3 + 4 + 5, "course", 5, 0);
         says(27, "the first such WAYS by numbers come to a ROW (anew)");
         due(x, 9, "course", 5, 5);
         holds(x, 5, 1, 2, 0, 0, 0);
@@ -305,6 +312,9 @@ public final class AnswerSentenceTest extends Sentences {
         for (int r = 0; r <= 4; r++) {
             due(x, cells[r], "fits", r);
         }
+        // What one GAINED may be more than there are PEOPLE.
+        x.fill(5, 1, 9, 0, 4);
+        due(x, 256, "fits", 5);
         says(28, "how many by asked()");
         for (int r = 0; r <= 4; r++) {
             tells(x, cells[r], many[r], "fits", r);
@@ -405,6 +415,9 @@ public final class AnswerSentenceTest extends Sentences {
         due(x, 4, "kinds", 2, 0);
         x.fill(0, 4, 0, 1, 5);
         due(x, 32, "kinds", 2, 0);
+        // What one GAINED may be more than there are CELLS.
+        x.fill(0, 4, 14, 8, 10);
+        due(x, 16, "kinds", 0, 0);
         x.fill(0, 1, 4);
         due(x, 2, "kinds", 2, 0);
         x.fill(0, 1, 4, 7, 4);
@@ -569,6 +582,8 @@ public final class AnswerSentenceTest extends Sentences {
         due(rest, 81, "duel", 3);
         // The other one does not push where it is worst already.
         due(Hill.on("l3300 g119"), 0, "duel", 6);
+        due(Hill.on("l5500 w001"), 8, "duel", 6);
+        due(Hill.on("l5544 w441"), 9, "duel", 5);
         Hill back = Hill.on("l3301 w112");
         back.call("year");
         back.call("house", 0, 3);

@@ -508,7 +508,11 @@ public final class LandSentenceTest extends Sentences {
         due(x, 8, "mark", 0, 2);
         due(x, 8, "mark", 1, 2);
         due(x, 1, "mark", 1, 4);
-        due(x, 2, "mark", 2, 5);
+        // One in each corner has 2 CELLS beside him; none lies behind the last line, or ahead of the first.
+        for (int corner : new int[] {4, 20, 24, 0}) {
+            x.call("house", 2, corner);
+            due(x, 2, "mark", 2, 5);
+        }
         x.call("house", 2, 1);
         due(x, 3, "mark", 2, 5);
         x.call("house", 2, 12);
@@ -782,6 +786,43 @@ public final class LandSentenceTest extends Sentences {
         due(none, 0, "keep", 2);
     }
 
+    /** Other DEEDS are done in the place of the kept ones before: each number of these comes back all the same. */
+    private static void onBehindOthers() {
+        Hill x = Hill.on("l3301 w111 f009");
+        x.call("push", 1);
+        x.call("house", 0, 1);
+        x.call("push", 2);
+        x.call("push", 3);
+        x.call("keep", 0);
+        x.call("undo", 0);
+        x.call("house", 1, 8);
+        x.call("year");
+        x.call("house", 0, 7);
+        x.call("year");
+        x.call("house", 0, 2);
+        x.call("keep", 1);
+        long[] others = new long[6];
+        for (int n = 5; n >= 0; n--) {
+            x.call("undo", n);
+            others[n] = x.call("digest");
+        }
+        x.call("on", 0);
+        int[] cells = {3, 0, 0, 1, 4};
+        for (int n = 4; n >= 0; n--) {
+            x.call("undo", n);
+            due(x, cells[n], "count", 2);
+            tells(x, 1, n > 1 ? 1 : 4, "one", 0, 1);
+            tells(x, 1, 0, "one", 1, 1);
+            due(x, 0, "count", 4);
+            due(x, 0, "count", 5);
+        }
+        x.call("on", 1);
+        for (int n = 5; n >= 0; n--) {
+            x.call("undo", n);
+            due(x, others[n], "digest");
+        }
+    }
+
     private static void on() {
         says(20, "The LAND is as it was kept: how many DEEDS");
         Hill x = Hill.on(TURNING);
@@ -811,6 +852,7 @@ public final class LandSentenceTest extends Sentences {
             x.call("push", 4);
         }
         check("a house moved alone is another land", moved == kept ? 1 : 0, 0);
+        onBehindOthers();
         Hill full = Hill.on(LONE);
         full.doUntil(40);
         full.call("keep", 1);

@@ -22,6 +22,7 @@ import java.util.spi.ToolProvider;
 /** The document's face, what of LANGUAGE.md can be seen from outside, and the room that calls take. */
 public final class LanguageTest {
     private static final String SOURCE = "src/main/java/VotedHill.java";
+    private static final Path DOCUMENT = Path.of("../shared/DOC.md");
     private static final String[] FACE = {"int row(int, int)", "int lay(int, int, int)", "int at(int, int)",
         "int tear(int)", "int copy(int, int, int, int, int)", "int mean(int)", "int text(int, int)",
         "int put(int, int, int)", "int fault(int)", "int land(int)", "int one(int, int)", "int mark(int, int)",
@@ -35,6 +36,7 @@ public final class LanguageTest {
 
     public static void main(String[] args) throws IOException {
         face();
+        faceOfDocument();
         constants();
         classesInside();
         source(Files.readString(Path.of(SOURCE)));
@@ -67,6 +69,25 @@ public final class LanguageTest {
         Constructor<?>[] made = VotedHill.class.getDeclaredConstructors();
         hold(made.length == 1 && made[0].getParameterCount() == 0 && Modifier.isPublic(made[0].getModifiers()),
             "one public constructor without parameters");
+    }
+
+    /** The document's code block names every method above, and no other one. */
+    private static void faceOfDocument() throws IOException {
+        if (!Files.isReadable(DOCUMENT)) {
+            System.out.println("no " + DOCUMENT + " here: its code block is not looked at");
+            return;
+        }
+        String text = Files.readString(DOCUMENT);
+        Matcher methods = Pattern.compile("public (int|long) (\\w+)\\(([^)]*)\\);").matcher(text);
+        Set<String> written = new TreeSet<>();
+        while (methods.find()) {
+            String types = methods.group(3).replaceAll("(int) \\w+", "$1");
+            written.add(methods.group(1) + " " + methods.group(2) + "(" + types + ")");
+        }
+        hold(written.equals(new TreeSet<>(Arrays.asList(FACE))), "the document's methods are " + written);
+        hold(text.contains("public static final int BAD = " + VotedHill.BAD + ", FULL = " + VotedHill.FULL
+            + ", FINDING = " + VotedHill.FINDING + ", STATE = " + VotedHill.STATE + ", SPENT = " + VotedHill.SPENT
+            + ", NONE = " + VotedHill.NONE + ";"), "the document's constants have these numbers");
     }
 
     private static String told(Method method) {

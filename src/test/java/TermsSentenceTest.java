@@ -1,12 +1,4 @@
 import java.io.IOException;
-import java.lang.reflect.Method;
-import java.lang.reflect.Modifier;
-import java.nio.file.Files;
-import java.nio.file.Path;
-import java.util.Set;
-import java.util.TreeSet;
-import java.util.regex.Matcher;
-import java.util.regex.Pattern;
 
 /** Each sentence of the document's terms: the call at its boundary, and the one just inside. */
 public final class TermsSentenceTest extends Sentences {
@@ -38,7 +30,6 @@ public final class TermsSentenceTest extends Sentences {
         aside();
         pairs();
         roundIt();
-        face();
         end(0, 0);
     }
 
@@ -728,33 +719,5 @@ public final class TermsSentenceTest extends Sentences {
         x.call("push", 1);
         tells(x, 4, 3, "way", 0, 2);
         due(x, 8 + 32, "parts", 0, 2);
-    }
-
-    /** The document's code block: every constant, the constructor, every method, and no more. */
-    private static void face() throws IOException {
-        says(0, "NONE -9");
-        Path document = Path.of("../shared/DOC.md");
-        if (!Files.isReadable(document)) {
-            return;
-        }
-        String text = Files.readString(document);
-        text = text.substring(text.indexOf("public final class VotedHill"), text.indexOf("## Terms"));
-        Set<String> due = new TreeSet<>();
-        Matcher methods = Pattern.compile("public (int|long) (\\w+)\\(([^)]*)\\);").matcher(text);
-        while (methods.find()) {
-            due.add(methods.group(1) + " " + methods.group(2) + " " + methods.group(3).replaceAll(" \\w+(, )?", " ").trim());
-        }
-        Set<String> shown = new TreeSet<>();
-        for (Method method : VotedHill.class.getDeclaredMethods()) {
-            if (Modifier.isPublic(method.getModifiers())) {
-                StringBuilder types = new StringBuilder();
-                for (Class<?> type : method.getParameterTypes()) {
-                    types.append(type.getName()).append(' ');
-                }
-                shown.add(method.getReturnType().getName() + " " + method.getName() + " " + types.toString().trim());
-            }
-        }
-        check("methods of the face", shown.equals(due) ? 1 : 0, 1);
-        check("how many", due.size(), 43);
     }
 }
