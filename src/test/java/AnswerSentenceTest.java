@@ -203,10 +203,16 @@ public final class AnswerSentenceTest extends Sentences {
         due(lone, 1, "when", 1);
         due(lone, 2, "when", 2);
         due(lone, 0, "asked");
-        // Later than then() looks: the latest YEAR in which a CELL is first reached that a long search found.
-        Hill late = Hill.on("l5542 w034 f428 w012 m427 h435 v022");
+        due(Hill.on("l5542 w034 f428 w012 m427 h435 v022"), 58, "when", 20);
+        // The latest that long searches found: no LAND is known in which a CELL is first reached in 60 or 61 YEARS.
+        Hill late = Hill.on("l5543 f418 w429 w428 m004 w421 f026");
+        due(late, 1, "year");
+        late.call("house", 1, 15);
+        late.call("house", 2, 9);
+        late.call("house", 4, 10);
+        due(late, 59, "when", 20);
+        late.call("year");
         due(late, 58, "when", 20);
-        check("then(40) is elsewhere", late.call("then", 40) == 20 ? 1 : 0, 0);
         says(25, "NONE: in none of these");
         tells(x, 9, 135, "then", 0);
         refused(x, NONE, "when", 3);
