@@ -204,7 +204,6 @@ public final class AnswerSentenceTest extends Sentences {
         due(lone, 2, "when", 2);
         due(lone, 0, "asked");
         due(Hill.on("l5542 w034 f428 w012 m427 h435 v022"), 58, "when", 20);
-        // The latest that long searches found: no LAND is known in which a CELL is first reached in 60 or 61 YEARS.
         Hill late = Hill.on("l5543 f418 w429 w428 m004 w421 f026");
         due(late, 1, "year");
         late.call("house", 1, 15);
@@ -213,6 +212,14 @@ public final class AnswerSentenceTest extends Sentences {
         due(late, 59, "when", 20);
         late.call("year");
         due(late, 58, "when", 20);
+        // The latest that long searches found: no LAND is known in which a CELL is first reached in 61 YEARS.
+        Hill latest = Hill.on("l5541 h242 w016 w036 v428 f035 m018");
+        due(latest, 4, "year");
+        latest.call("house", 5, 24);
+        due(latest, 60, "when", 20);
+        due(latest, 54, "when", 21);
+        latest.call("year");
+        due(latest, 59, "when", 20);
         says(25, "NONE: in none of these");
         tells(x, 9, 135, "then", 0);
         refused(x, NONE, "when", 3);
